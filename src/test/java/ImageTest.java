@@ -1,0 +1,146 @@
+/** Promises 40 and 41: images. */
+final class ImageTest {
+    public static void main(String[] args) {
+        wrong();
+        allIsKept();
+        lastAnswersStay();
+        withoutSentence();
+        Check.finish("ImageTest");
+    }
+
+    private static void wrong() {
+        SundialTreaty x = Check.valley("town a 1;");
+        for (int k : new int[] {-1, 2, Integer.MIN_VALUE, Integer.MAX_VALUE}) {
+            Check.no("image(" + k + ")", x.image(k));
+            Check.no("restore(" + k + ")", x.restore(k));
+        }
+        Check.no("restore(0) of nothing", x.restore(0));
+        Check.no("restore(1) of nothing", x.restore(1));
+        x.days(1);
+        Check.yes("image(1)", x.image(1));
+        Check.no("restore(0) of nothing", x.restore(0));
+        Check.eq("undo() when not restored", x.undo(), 0);
+        Check.yes("restore(1)", x.restore(1));
+        Check.eq("the day", x.now(0), 1);
+        Check.eq("undo() when restored", x.undo(), -1);
+    }
+
+    private static void allIsKept() {
+        SundialTreaty x = Check.valley("town ada 20 fast 5;town bel 30;term ada 0 399 slow 1;train k bel ada 7 9;limit 4;change 5;frost 6;");
+        Check.tape(x, "breach and fast > 0");
+        x.sentence();
+        x.bend(0, 4);
+        x.shade(1);
+        x.days(2);
+        x.freeze();
+        x.bend(1, -2);
+        String was = all(x);
+        Check.yes("image(0)", x.image(0));
+        x.days(9);
+        x.clear(1);
+        Check.tape(x, "town c 1;town d 2;town e 3;term e 0 0 fast 1;limit 9;");
+        x.valley();
+        Check.tape(x, "right");
+        x.sentence();
+        String second = all(x);
+        Check.yes("image(1)", x.image(1));
+        x.bend(0, 3);
+        Check.yes("restore(0)", x.restore(0));
+        Check.yes("all is as it was: " + all(x), all(x).equals(was));
+        Check.eq("undo()", x.undo(), -1);
+        x.freeze();
+        Check.tape(x, "right");
+        x.sentence();
+        Check.yes("restore(0) again", x.restore(0));
+        Check.yes("the image did not change: " + all(x), all(x).equals(was));
+        Check.yes("restore(1)", x.restore(1));
+        Check.yes("the other image: " + all(x), all(x).equals(second));
+        x.days(3);
+        Check.yes("image(0) anew", x.image(0));
+        x.days(3);
+        x.restore(0);
+        Check.eq("the day", x.now(0), 3);
+        Check.tape(x, "town e 3;");
+        Check.eq("valley()", x.valley(), 1);
+        x.restore(1);
+        Check.eq("names are kept", motto(x, 2).equals("e counts right") ? 1 : 0, 1);
+    }
+
+    private static void lastAnswersStay() {
+        SundialTreaty x = Check.valley("town a 0 fast 3;town b 9;train k a b 3 4;train l b a 1 1;");
+        x.image(0);
+        x.even();
+        x.nearer();
+        x.route(0, 1, 0);
+        x.motto(0);
+        Check.tape(x, "shade a;shade a;");
+        x.book(1);
+        Check.tape(x, "wrong");
+        x.sentence();
+        x.feed(1, 2, 3, 4, 5);
+        int near = x.nearerAt(1);
+        x.restore(0);
+        Check.eq("evenAt(1)", x.evenAt(1), -3);
+        Check.eq("nearerAt(1)", x.nearerAt(1), near);
+        Check.eq("routeAt(0)", x.routeAt(0), 0);
+        Check.eq("byteAt(0)", x.byteAt(0), 'a');
+        Check.eq("told(0)", x.told(0), 11);
+        Check.eq("fault()", x.fault(), 1);
+        Check.eq("the tape", x.count(6), 20);
+        Check.eq("shaded", x.now(3), 0);
+    }
+
+    private static void withoutSentence() {
+        SundialTreaty x = Check.valley("town a 0;");
+        x.image(0);
+        Check.tape(x, "right");
+        x.sentence();
+        Check.eq("said(-1)", x.said(-1), 1);
+        x.image(1);
+        x.restore(0);
+        Check.eq("said(-1) as kept", x.said(-1), -1);
+        Check.tape(x, "");
+        x.valley();
+        x.restore(1);
+        Check.eq("said(-1) as kept", x.said(-1), 1);
+    }
+
+    private static String motto(SundialTreaty x, int t) {
+        StringBuilder text = new StringBuilder();
+        int n = x.motto(t);
+        for (int i = 0; i < n; i++) {
+            text.append((char) x.byteAt(i));
+        }
+        return text.toString();
+    }
+
+    private static String all(SundialTreaty x) {
+        StringBuilder all = new StringBuilder();
+        for (int what = 0; what < 6; what++) {
+            all.append(x.count(what)).append(' ');
+        }
+        for (int what = 0; what < 7; what++) {
+            all.append(x.now(what)).append(' ');
+        }
+        for (int t = 0; t < x.count(0); t++) {
+            for (int what = 0; what < 9; what++) {
+                all.append(x.town(t, what)).append(' ');
+            }
+            int town = t;
+            for (int day = 0; day < 400; day += 57) {
+                int on = day;
+                all.append(Check.orThrown(() -> x.due(town, on), 99)).append(' ');
+            }
+            all.append(motto(x, t)).append(' ');
+        }
+        for (int k = 0; k < x.count(2); k++) {
+            for (int what = 0; what < 7; what++) {
+                all.append(x.train(k, what)).append(' ');
+            }
+        }
+        for (int k = -1; k < 4; k++) {
+            all.append(x.said(k)).append(' ');
+        }
+        return all.toString();
+    }
+}
