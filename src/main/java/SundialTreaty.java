@@ -401,11 +401,9 @@ public final class SundialTreaty {
         }
         int ahead = land.dueOn(t, state.day - 1);
         for (int day = state.day; day < LAST_DAY; day++) {
-            int today = land.dueOn(t, day);
-            if (today != ahead) {
+            if (land.dueOn(t, day) != ahead) {
                 return day;
             }
-            ahead = today;
         }
         return NONE;
     }
@@ -1389,7 +1387,7 @@ public final class SundialTreaty {
         private boolean read(Valley land, Reader text) {
             lines = 0;
             text.begin(MOST_BYTES);
-            while (!text.atEnd()) {
+            while (!text.atEnd() && lines <= MOST_LINES) {
                 if (!isAct(text.word)) {
                     return text.failAs(1);
                 }

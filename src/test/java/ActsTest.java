@@ -134,6 +134,7 @@ final class ActsTest {
         }
         for (int left = 7; left >= 0; left--) {
             Check.eq("undo()", x.undo(), left);
+            Check.eq("the day then", x.now(0), 4 + left);
         }
         Check.eq("undo() of a ninth", x.undo(), -1);
         Check.eq("the day", x.now(0), 4);

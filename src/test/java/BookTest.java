@@ -70,6 +70,7 @@ final class BookTest {
         book(x, "day 60;day 60;day 60;day 60;day 60;day 60;day 40;bend a fast 1;day 1;", 1, 8, 41, 8, 400, 0);
         Check.eq("the day", x.now(0), 400);
         Check.eq("a", x.town(0, 1), 6);
+        book(Check.valley("town a 1;limit 10;"), "bend a fast 10;day 60;bend a slow 10;", 0, -1, 0, 3, 60, 0);
         // A dial that was bent on the day by bend() is not bent by a book.
         SundialTreaty y = Check.valley(TEXT);
         y.bend(0, 1);

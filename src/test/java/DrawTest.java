@@ -140,6 +140,11 @@ final class DrawTest {
                 }
                 Check.eq("odds(" + t + ", 30, " + seed + ")", y.odds(t, 30, seed), want);
                 Check.eq("all stays", y.now(0), 3);
+                int had = y.town(t, 4);
+                y.drawn(20, seed);
+                int one = y.town(t, 4) > had ? 1 : 0;
+                y.undo();
+                Check.eq("odds(" + t + ", 1, " + seed + ")", y.odds(t, 1, seed), one);
             }
         }
     }

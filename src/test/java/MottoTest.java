@@ -7,6 +7,12 @@ final class MottoTest {
         motto(x, 1, "bcdefgh counts slow 10");
         motto(x, 2, "cor counts right");
         motto(x, 3, "wxyz counts slow 30");
+        SundialTreaty y = Check.valley("town a 1 fast 1;town b 2 slow 9;town c 3 fast 19;town d 4 fast 29;town e 5 slow 20;");
+        motto(y, 0, "a counts fast 1");
+        motto(y, 1, "b counts slow 9");
+        motto(y, 2, "c counts fast 19");
+        motto(y, 3, "d counts fast 29");
+        motto(y, 4, "e counts slow 20");
         x.shade(1);
         x.shade(2);
         motto(x, 1, "bcdefgh counts slow 10 in the shade");

@@ -10,6 +10,7 @@ final class SentenceTest {
         faults();
         within();
         tooLong();
+        oneBehindTheOther();
         staysAndGoes();
         Check.finish("SentenceTest");
     }
@@ -55,6 +56,9 @@ final class SentenceTest {
         said("slow > 3", 1, 1);
         said("slow = 4", 1, 1);
         said("slow < 4", 1, 0, 2, 3);
+        said("slow = 0", 1, 0, 2, 3);
+        said("slow > 0", 1, 1);
+        said("fast > 0", 1, 0);
         said("broken = 2", 1, 0);
         said("broken > 1", 1, 0);
         said("broken = 000", 1, 1, 2, 3);
@@ -168,6 +172,18 @@ final class SentenceTest {
         fault("ahead" + Check.blanks(194) + "zz", 3, 199);
         fault("ahead" + Check.blanks(195) + "zz", 1, 200);
         fault("right or" + Check.blanks(191) + "shadedby", 1, 199);
+    }
+
+    private static void oneBehindTheOther() {
+        SundialTreaty x = four();
+        String[] texts = {"not (right or number = 1)", "number = 2 or number = 1", "right and wrong", "not right", "number < 3"};
+        int[] ones = {4, 2, -11, 2, 1};
+        int[] many = {1, 2, 2, 2, 3};
+        for (int i = 0; i < texts.length; i++) {
+            Check.tape(x, texts[i]);
+            Check.eq("sentence() of " + texts[i], x.sentence(), ones[i]);
+            Check.eq("said(-1) of " + texts[i], x.said(-1), many[i]);
+        }
     }
 
     private static void staysAndGoes() {

@@ -176,6 +176,8 @@ final class ValleyTextTest {
         x.bend(0, 1);
         x.days(2);
         x.freeze();
+        x.shade(0);
+        x.bend(0, 1);
         Check.tape(x, "town b 5 fast 3;");
         Check.eq("valley()", x.valley(), 1);
         int[] want = {0, 3, 0, 0, 0, 0, 3};
@@ -185,6 +187,19 @@ final class ValleyTextTest {
         Check.eq("bent today", x.town(0, 7), 0);
         Check.eq("said(-1)", x.said(-1), -1);
         Check.eq("undo()", x.undo(), -1);
+        // One valley behind the other, a bad one between: nothing is left of those ahead.
+        String[] texts = {"town a 1;town c 2;term a 0 9 fast 1;train k a c 0 1;limit 4;", "town a 1;town c 2;term a 0 9 up 1;",
+            "town d 1;", "town e 1 fast 2;frost 2;", "town a 1;town b 2;term b 0 9 fast 1;train k a b 0 1;change 4;"};
+        int[][] wants = {{2, 1, 1, 4, 2, 1}, {2, 1, 1, 4, 2, 1}, {1, 0, 0, 3, 2, 1}, {1, 0, 0, 3, 2, 2}, {2, 1, 1, 3, 4, 1}};
+        for (int i = 0; i < texts.length; i++) {
+            Check.tape(x, texts[i]);
+            x.valley();
+            for (int what = 0; what < 6; what++) {
+                Check.eq("count(" + what + ") behind " + texts[i], x.count(what), wants[i][what]);
+            }
+        }
+        Check.eq("no due is left", x.town(0, 8), 0);
+        Check.eq("no bend is left", x.now(1), 0);
     }
 
     private static void lines(String text, int want) {
