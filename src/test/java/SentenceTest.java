@@ -184,6 +184,11 @@ final class SentenceTest {
             Check.eq("sentence() of " + texts[i], x.sentence(), ones[i]);
             Check.eq("said(-1) of " + texts[i], x.said(-1), many[i]);
         }
+        for (int i = 0; i < 100; i++) {
+            Check.tape(x, "number = " + i % 4 + " or number = 9");
+            Check.eq("sentence " + i, x.sentence(), 2);
+            Check.eq("said(0) of sentence " + i, x.said(0), i % 4);
+        }
     }
 
     private static void staysAndGoes() {
