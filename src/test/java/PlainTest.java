@@ -125,6 +125,14 @@ final class PlainTest {
                 last = Math.max(last, noon[t] - bend[t]);
             }
         }
+        int sum = 0;
+        int off = 0;
+        for (int b : bend) {
+            sum += b;
+            off += Math.abs(b);
+        }
+        Check.eq("now(1) of " + text, x.now(1), sum);
+        Check.eq("now(6) of " + text, x.now(6), off);
         Check.eq("noonLong() of " + text, Check.orThrown(x::noonLong, NO), first == NO ? NO : last - first);
         Check.eq("oneNoon() of " + text, Check.orThrown(x::oneNoon, NO), oneNoon(bend, -1));
     }

@@ -126,6 +126,14 @@ final class ValleyTextTest {
         Check.valleyFault("town a 1 \n ", 1, 11);
         Check.valleyFault("town a 1 fast", 1, 13);
         Check.valleyFault("town a 61", 2, 7);
+        // What end() took off the tape is not read.
+        for (String behind : new String[] {"       ", "9;     ", ";      "}) {
+            SundialTreaty x = new SundialTreaty();
+            Check.tape(x, "town a 1" + behind);
+            x.end(8);
+            Check.eq("valley() of a cut tape", x.valley(), -9);
+            Check.eq("its fault", x.fault(), 1);
+        }
         Check.valleyFault("limit 3", 1, 7);
     }
 
@@ -141,6 +149,9 @@ final class ValleyTextTest {
         Check.valleyFault("town a" + Check.blanks(894) + "61;", 1, 900);
         Check.valleyFault("limit 1;" + Check.blanks(891) + "limit 1;", 3, 899);
         Check.valleyFault("limit 1;" + Check.blanks(892) + "limit 1;", 1, 900);
+        Check.valleyFault(Check.blanks(940), 1, 900);
+        Check.valleyFault("town a" + Check.blanks(893) + "1" + Check.blanks(40), 1, 900);
+        Check.valleyFault("limit 11;" + "x".repeat(931), 2, 6);
         lines(Check.blanks(891) + "town a 1;", 1);
         Check.valleyFault(Check.blanks(892) + "town a 1;", 1, 900);
         Check.valleyFault("town a 1;" + Check.blanks(891) + "\u0001", 1, 900);
