@@ -1,10 +1,13 @@
 import java.util.NoSuchElementException;
 import java.util.function.IntSupplier;
+import java.util.function.IntUnaryOperator;
 
 /** What all tests of the project share: counted checks, and texts put on a tape. */
 final class Check {
     private static int wrong = 0;
     private static int done = 0;
+    private static int sentences = 0;
+    private static String words = "";
 
     private Check() {
     }
@@ -12,9 +15,32 @@ final class Check {
     static void eq(String what, long got, long want) {
         done++;
         if (got != want) {
-            wrong++;
-            System.out.println(what + " answered " + got + ", due is " + want);
+            say(what + " answered " + got + ", due is " + want);
         }
+    }
+
+    private static void say(String line) {
+        wrong++;
+        System.out.println(words + line);
+    }
+
+    /**
+     * A test of its own for what a sentence of the document tells: its words stand ahead of each
+     * line that the test prints. A test that checks nothing, or that is cut off, is wrong too.
+     */
+    static void sentence(String told, Runnable test) {
+        int before = done;
+        words = "'" + told + "': ";
+        sentences++;
+        try {
+            test.run();
+            if (done == before) {
+                say("nothing was checked");
+            }
+        } catch (RuntimeException | StackOverflowError e) {
+            say("the test was cut off by " + e);
+        }
+        words = "";
     }
 
     static void yes(String what, boolean got) {
@@ -30,12 +56,10 @@ final class Check {
         done++;
         try {
             int got = call.getAsInt();
-            wrong++;
-            System.out.println(what + " answered " + got + ", due is NoSuchElementException");
+            say(what + " answered " + got + ", due is NoSuchElementException");
         } catch (NoSuchElementException e) {
             if (e.getClass() != NoSuchElementException.class) {
-                wrong++;
-                System.out.println(what + " threw " + e);
+                say(what + " threw " + e);
             }
         }
     }
@@ -72,10 +96,25 @@ final class Check {
         tape(x, text);
         int lines = x.valley();
         if (lines < 0) {
-            wrong++;
-            System.out.println("no valley: " + text + " answered " + lines);
+            say("no valley: " + text + " answered " + lines);
         }
         return x;
+    }
+
+    /** The same valley on a later day, nothing but days gone by. */
+    static SundialTreaty valleyOn(int day, String text) {
+        SundialTreaty x = valley(text);
+        toDay(x, day);
+        return x;
+    }
+
+    static void toDay(SundialTreaty x, int day) {
+        while (x.now(0) < day && x.days(Math.min(60, day - x.now(0))) > 0) {
+            // The next days go by.
+        }
+        if (x.now(0) != day) {
+            throw new IllegalStateException("it is day " + x.now(0) + ", not " + day);
+        }
     }
 
     /** The text must be refused with a fault of that kind at that place. */
@@ -88,6 +127,56 @@ final class Check {
         eq("count(6) behind " + brief(text), x.count(6), 0);
     }
 
+    /** All that can be asked for without a change, but the tape's length and the latest fault. */
+    static String all(SundialTreaty x) {
+        StringBuilder all = new StringBuilder();
+        put(all, "count", 6, x::count);
+        put(all, "now", 7, x::now);
+        for (int i = 0; i < x.count(0); i++) {
+            int t = i;
+            put(all, "town " + t, 9, what -> x.town(t, what));
+            put(all, "due " + t, 9, part -> x.due(t, Math.min(399, 50 * part)));
+        }
+        for (int i = 0; i < x.count(2); i++) {
+            int k = i;
+            put(all, "train " + k, 7, what -> x.train(k, what));
+        }
+        put(all, "said", 8, k -> x.said(k - 1));
+        put(all, "told", 4, x::told);
+        put(all, "route", 9, x::routeAt);
+        put(all, "motto", 40, x::byteAt);
+        put(all, "even", 7, x::evenAt);
+        put(all, "nearer", 7, x::nearerAt);
+        return all.toString();
+    }
+
+    private static void put(StringBuilder all, String what, int most, IntUnaryOperator ask) {
+        all.append(what).append(':');
+        for (int i = 0; i < most; i++) {
+            int at = i;
+            all.append(' ').append(orThrown(() -> ask.applyAsInt(at), 9999));
+        }
+        all.append('\n');
+    }
+
+    /** The call must leave all as it is, the tape and the latest fault too. */
+    static void stays(String what, SundialTreaty x, Runnable call) {
+        String before = all(x) + x.count(6) + " " + x.fault();
+        call.run();
+        String behind = all(x) + x.count(6) + " " + x.fault();
+        yes(what + " leaves all as it is", before.equals(behind));
+    }
+
+    /** It must throw a NoSuchElementException and leave all as it is. */
+    static void noneAndStays(String what, SundialTreaty x, IntSupplier call) {
+        stays(what, x, () -> none(what, call));
+    }
+
+    /** It must answer so and leave all as it is. */
+    static void eqAndStays(String what, SundialTreaty x, IntSupplier call, int want) {
+        stays(what, x, () -> eq(what, call.getAsInt(), want));
+    }
+
     static String brief(String text) {
         return text.length() <= 80 ? text : text.substring(0, 30) + ".." + text.substring(text.length() - 30);
     }
@@ -97,7 +186,8 @@ final class Check {
     }
 
     static void finish(String name) {
-        System.out.println(name + ": " + done + " checks, " + wrong + " wrong");
+        String tests = sentences == 0 ? "" : sentences + " sentences, ";
+        System.out.println(name + ": " + tests + done + " checks, " + wrong + " wrong");
         if (wrong != 0 || done == 0) {
             System.exit(1);
         }
