@@ -38,9 +38,7 @@ final class ActsTest {
         Check.eq("a then", x.town(0, 1), 26);
         Check.eq("a shaded dial", x.shade(2), 0);
         Check.eq("is bent, too", x.bend(2, 4), 0);
-        for (int i = 0; i < 7; i++) {
-            x.days(60);
-        }
+        Check.toDay(x, 400);
         Check.eq("bend behind all days", x.bend(0, 1), 0);
         Check.eq("bend behind all days, again", x.bend(0, 1), 1);
     }
@@ -104,27 +102,27 @@ final class ActsTest {
     private static void undoing() {
         SundialTreaty x = Check.valley("town a 9 fast 3;town b 9;term a 0 399 fast 0;limit 5;");
         String[] was = new String[8];
-        was[0] = all(x);
+        was[0] = Check.land(x);
         x.bend(0, 5);
-        was[1] = all(x);
+        was[1] = Check.land(x);
         x.shade(1);
-        was[2] = all(x);
+        was[2] = Check.land(x);
         x.clear(1);
-        was[3] = all(x);
+        was[3] = Check.land(x);
         x.freeze();
-        was[4] = all(x);
+        was[4] = Check.land(x);
         x.days(7);
-        was[5] = all(x);
+        was[5] = Check.land(x);
         x.drawn(9, 77);
-        was[6] = all(x);
+        was[6] = Check.land(x);
         Check.tape(x, "day 1;bend a slow 2;shade b;clear a;");
         x.book(1);
         for (int left = 6; left >= 0; left--) {
             Check.eq("undo()", x.undo(), left);
-            Check.yes("all is as it was ahead of act " + left + ": " + all(x), all(x).equals(was[left]));
+            Check.yes("all is as it was ahead of act " + left + ": " + Check.land(x), Check.land(x).equals(was[left]));
         }
         Check.eq("undo() of nothing", x.undo(), -1);
-        Check.yes("all stays", all(x).equals(was[0]));
+        Check.yes("all stays", Check.land(x).equals(was[0]));
     }
 
     private static void undoKeepsEight() {
@@ -168,9 +166,7 @@ final class ActsTest {
         Check.tape(x, "\u0000\u005b");
         x.shadows();
         Check.eq("undo()", x.undo(), -1);
-        for (int i = 0; i < 7; i++) {
-            x.days(60);
-        }
+        Check.toDay(x, 400);
         Check.eq("days over", x.days(3), 0);
         Check.eq("drawn over", x.drawn(3, 1), 0);
         Check.eq("undo()", x.undo(), 6);
@@ -181,18 +177,5 @@ final class ActsTest {
         x.book(1);
         Check.eq("undo() of an empty book", x.undo(), 6);
         Check.eq("the sentence stays", x.said(-1), 2);
-    }
-
-    private static String all(SundialTreaty x) {
-        StringBuilder all = new StringBuilder();
-        for (int what = 0; what < 7; what++) {
-            all.append(x.now(what)).append(' ');
-        }
-        for (int t = 0; t < x.count(0); t++) {
-            for (int what = 0; what < 9; what++) {
-                all.append(x.town(t, what)).append(' ');
-            }
-        }
-        return all.toString();
     }
 }

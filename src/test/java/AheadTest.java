@@ -25,16 +25,9 @@ final class AheadTest {
         Check.eq("kept() of a shaded one", x.kept(), 4);
         x.days(6);
         Check.eq("kept() behind the terms", x.kept(), 7);
-        for (int i = 0; i < 7; i++) {
-            x.days(60);
-        }
+        Check.toDay(x, 400);
         Check.eq("kept() behind all days", x.kept(), -1);
-        SundialTreaty y = Check.valley("town a 0;term a 399 399 fast 2;limit 1;");
-        for (int i = 0; i < 6; i++) {
-            y.days(60);
-        }
-        y.days(39);
-        Check.eq("the day", y.now(0), 399);
+        SundialTreaty y = Check.valleyOn(399, "town a 0;term a 399 399 fast 2;limit 1;");
         Check.eq("kept() not by the last day", y.kept(), -1);
         y.bend(0, 1);
         Check.eq("kept() by the last day", y.kept(), 399);
@@ -67,9 +60,7 @@ final class AheadTest {
         Check.eq("worst(2) from day 6 on", x.worst(2), 1);
         x.days(3);
         Check.eq("worst(60) of none", x.worst(60), -1);
-        for (int i = 0; i < 6; i++) {
-            x.days(60);
-        }
+        Check.toDay(x, 369);
         Check.eq("worst(60) to day 400", x.worst(60), 0);
         Check.eq("all stays", x.now(0), 369);
         x.days(60);
@@ -90,11 +81,7 @@ final class AheadTest {
         x.bend(0, 3);
         x.days(9);
         Check.eq("right(0, 60) from day 9 on", x.right(0, 60), 1);
-        for (int i = 0; i < 6; i++) {
-            x.days(60);
-        }
-        x.days(26);
-        Check.eq("the day", x.now(0), 395);
+        Check.toDay(x, 395);
         Check.eq("right(0, 4)", x.right(0, 4), 4);
         Check.eq("right(0, 60) to day 399", x.right(0, 60), 5);
         x.days(5);
@@ -117,11 +104,8 @@ final class AheadTest {
         Check.eq("turns(0) to none", x.turns(0), 21);
         x.days(11);
         Check.eq("turns(0) on day 22", x.turns(0), -1);
-        for (int i = 0; i < 6; i++) {
-            x.days(60);
-        }
         Check.eq("turns(2)", x.turns(2), 399);
-        x.days(17);
+        Check.toDay(x, 399);
         Check.eq("turns(2) on day 399", x.turns(2), 399);
         x.days(1);
         Check.eq("turns(2) behind all days", x.turns(2), -1);

@@ -129,6 +129,11 @@ final class Check {
 
     /** All that can be asked for without a change, but the tape's length and the latest fault. */
     static String all(SundialTreaty x) {
+        return land(x) + toldLast(x);
+    }
+
+    /** The valley, all that is so and the sentence: what an image keeps. */
+    static String land(SundialTreaty x) {
         StringBuilder all = new StringBuilder();
         put(all, "count", 6, x::count);
         put(all, "now", 7, x::now);
@@ -142,6 +147,12 @@ final class Check {
             put(all, "train " + k, 7, what -> x.train(k, what));
         }
         put(all, "said", 8, k -> x.said(k - 1));
+        return all.toString();
+    }
+
+    /** What calls told last, and what stays till the next such call. */
+    static String toldLast(SundialTreaty x) {
+        StringBuilder all = new StringBuilder();
         put(all, "told", 4, x::told);
         put(all, "route", 9, x::routeAt);
         put(all, "motto", 40, x::byteAt);

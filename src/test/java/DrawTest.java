@@ -3,8 +3,6 @@ final class DrawTest {
     private static final String TEXT = "town a 20 fast 5;town b 30 slow 4;town c 26;town d 0 fast 29;"
             + "term a 0 30 fast 5;term b 5 399 slow 4;term c 10 20 fast 0;term d 0 399 fast 30;frost 2;limit 1;";
 
-    private static int x;
-
     public static void main(String[] args) {
         wrong();
         drawnByHand();
@@ -32,43 +30,8 @@ final class DrawTest {
         Check.eq("the day stays", z.now(0), 0);
     }
 
-    private static int draw(int n) {
-        x = x * 1103515245 + 12345;
-        return (x >>> 8) % n;
-    }
-
-    /** The same by the calls of the face alone. */
-    private static int byHand(SundialTreaty y, int n, int seed) {
-        x = seed;
-        int gone = 0;
-        for (int i = 0; i < n && y.now(0) < 400; i++) {
-            if (draw(12) < y.count(5)) {
-                y.freeze();
-            }
-            for (int t = 0; t < y.count(0); t++) {
-                int drawn = draw(8);
-                if (drawn == 0) {
-                    y.bend(t, 1);
-                } else if (drawn == 1) {
-                    y.bend(t, -1);
-                } else if (drawn == 2 && y.shade(t) == 1) {
-                    y.clear(t);
-                }
-            }
-            gone += y.days(1);
-        }
-        return gone;
-    }
-
     private static void alike(String what, SundialTreaty y, SundialTreaty z) {
-        for (int w = 0; w < 7; w++) {
-            Check.eq(what + ": now(" + w + ")", y.now(w), z.now(w));
-        }
-        for (int t = 0; t < z.count(0); t++) {
-            for (int w = 0; w < 9; w++) {
-                Check.eq(what + ": town(" + t + ", " + w + ")", y.town(t, w), z.town(t, w));
-            }
-        }
+        Check.yes(what + ": all is as by hand", Check.land(y).equals(Check.land(z)));
     }
 
     private static void drawnByHand() {
@@ -77,7 +40,7 @@ final class DrawTest {
             for (int n : new int[] {1, 2, 20, 60}) {
                 SundialTreaty y = Check.valley(TEXT);
                 SundialTreaty z = Check.valley(TEXT);
-                Check.eq("drawn(" + n + ", " + seed + ")", y.drawn(n, seed), byHand(z, n, seed));
+                Check.eq("drawn(" + n + ", " + seed + ")", y.drawn(n, seed), new DrawnByHand(seed).days(z, n));
                 alike("drawn(" + n + ", " + seed + ")", y, z);
                 Check.eq("undo()", y.undo(), 0);
                 alike("undone", y, Check.valley(TEXT));
@@ -94,7 +57,7 @@ final class DrawTest {
                 z.bend(t, 1);
             }
             y.drawn(1, seed);
-            byHand(z, 1, seed);
+            new DrawnByHand(seed).days(z, 1);
             alike("drawn(1, " + seed + ") when bent", y, z);
         }
     }
@@ -109,11 +72,7 @@ final class DrawTest {
     }
 
     private static void toTheLastDay() {
-        SundialTreaty y = Check.valley(TEXT);
-        for (int i = 0; i < 6; i++) {
-            y.days(60);
-        }
-        y.days(35);
+        SundialTreaty y = Check.valleyOn(395, TEXT);
         Check.eq("odds of the last days", y.odds(3, 30, 9) >= 0 ? 1 : 0, 1);
         Check.eq("drawn(60, 3)", y.drawn(60, 3), 5);
         Check.eq("the day", y.now(0), 400);

@@ -204,44 +204,11 @@ final class EdgeAheadTest {
         Check.eq("turns(0) without towns", new SundialTreaty().turns(0), -1);
     }
 
-    /** The draws as the document tells them, and the days that they lead to, by the calls of the face. */
-    private static final class ByHand {
-        private int x;
-
-        private int draw(int n) {
-            x = x * 1103515245 + 12345;
-            return (x >>> 8) % n;
-        }
-
-        private void days(SundialTreaty y, int n, int seed) {
-            x = seed;
-            for (int i = 0; i < n && y.now(0) < 400; i++) {
-                if (draw(12) < y.count(5)) {
-                    y.freeze();
-                }
-                for (int t = 0; t < y.count(0); t++) {
-                    act(y, t, draw(8));
-                }
-                y.days(1);
-            }
-        }
-
-        private static void act(SundialTreaty y, int t, int drawn) {
-            if (drawn == 0) {
-                y.bend(t, 1);
-            } else if (drawn == 1) {
-                y.bend(t, -1);
-            } else if (drawn == 2 && y.shade(t) == 1) {
-                y.clear(t);
-            }
-        }
-    }
-
     private static void likeByHand(String text, int n, int seed) {
         SundialTreaty x = Check.valley(text);
         SundialTreaty y = Check.valley(text);
         Check.eq("drawn(" + n + ", " + seed + ")", x.drawn(n, seed), n);
-        new ByHand().days(y, n, seed);
+        new DrawnByHand(seed).days(y, n);
         Check.yes("drawn(" + n + ", " + seed + ") of " + text, Check.all(x).equals(Check.all(y)));
     }
 
@@ -293,8 +260,7 @@ final class EdgeAheadTest {
             SundialTreaty x = Check.valley("town a 0;town b 0;frost 0;");
             x.shade(1);
             x.drawn(1, seed);
-            ByHand hand = new ByHand();
-            hand.x = seed;
+            DrawnByHand hand = new DrawnByHand(seed);
             hand.draw(12);
             int first = hand.draw(8);
             int second = hand.draw(8);

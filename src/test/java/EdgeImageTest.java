@@ -25,17 +25,11 @@ final class EdgeImageTest {
         return x;
     }
 
-    /** What is kept: all but what calls told last. */
-    private static String keptOf(SundialTreaty x) {
-        String all = Check.all(x);
-        return all.substring(0, all.indexOf("told"));
-    }
-
     private static void kept() {
         for (int k = 0; k < 2; k++) {
             int place = k;
             SundialTreaty x = busy();
-            String before = keptOf(x);
+            String before = Check.land(x);
             Check.stays("image(" + place + ")", x, () -> Check.yes("image(" + place + ")", x.image(place)));
             Check.eq("what can be undone stays", x.undo(), 4);
             x.days(9);
@@ -44,7 +38,7 @@ final class EdgeImageTest {
             Texts.VALLEY.read(x, Texts.towns(7) + Texts.terms(12) + Texts.trains(8) + "limit 1;change 1;frost 2;");
             x.drawn(60, 3);
             Check.yes("restore(" + place + ")", x.restore(place));
-            Check.yes("all is as it was", keptOf(x).equals(before));
+            Check.yes("all is as it was", Check.land(x).equals(before));
         }
     }
 
@@ -59,30 +53,30 @@ final class EdgeImageTest {
 
     private static void asKept() {
         SundialTreaty x = busy();
-        String first = keptOf(x);
+        String first = Check.land(x);
         x.image(0);
         x.days(1);
-        String second = keptOf(x);
+        String second = Check.land(x);
         x.image(1);
         Texts.VALLEY.read(x, "");
-        String empty = keptOf(x);
+        String empty = Check.land(x);
         for (int i = 0; i < 3; i++) {
             x.restore(0);
-            Check.yes("the first", keptOf(x).equals(first));
+            Check.yes("the first", Check.land(x).equals(first));
             x.bend(1, 1);
             x.days(3);
             Texts.SENTENCE.read(x, "right");
             x.restore(1);
-            Check.yes("the second", keptOf(x).equals(second));
+            Check.yes("the second", Check.land(x).equals(second));
             x.freeze();
         }
         // Kept anew: what was kept there is gone, the other place stays.
         Texts.VALLEY.read(x, "");
         x.image(0);
         x.restore(1);
-        Check.yes("the second", keptOf(x).equals(second));
+        Check.yes("the second", Check.land(x).equals(second));
         x.restore(0);
-        Check.yes("the empty one", keptOf(x).equals(empty));
+        Check.yes("the empty one", Check.land(x).equals(empty));
         Check.eq("said(-1) of no sentence", x.said(-1), -1);
         // Whether a dial was bent on the day is kept, too.
         SundialTreaty y = Check.valley("town a 0;");
@@ -104,10 +98,9 @@ final class EdgeImageTest {
         Texts.BOOK.read(x, "day 3;clear a;");
         Texts.VALLEY.read(x, "limit 0;");
         x.feed(0x72696768, 0x74202020, 0x20202020, 0x20202020, 0x20202020);
-        String all = Check.all(x);
-        String toldLast = all.substring(all.indexOf("told"));
+        String before = Check.toldLast(x);
         Check.yes("restore(0)", x.restore(0));
-        Check.yes("what was told last stays", Check.all(x).endsWith(toldLast));
+        Check.yes("what was told last stays", Check.toldLast(x).equals(before));
         Check.eq("fault() stays", x.fault(), 2);
         Check.eq("the tape stays", x.count(6), 20);
         Check.eq("sentence() of the tape that stayed", x.sentence(), 1);

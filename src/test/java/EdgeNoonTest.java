@@ -93,14 +93,12 @@ final class EdgeNoonTest {
     }
 
     private static void even(SundialTreaty x, int want, int... by) {
-        String before = Check.all(x);
+        String before = Check.land(x);
         Check.eq("even()", x.even(), want);
         for (int t = 0; t < by.length; t++) {
             Check.eq("evenAt(" + t + ")", x.evenAt(t), by[t]);
         }
-        String behind = Check.all(x);
-        Check.yes("even() leaves the valley as it is",
-                before.substring(0, before.indexOf("even")).equals(behind.substring(0, behind.indexOf("even"))));
+        Check.yes("even() leaves the valley as it is", Check.land(x).equals(before));
     }
 
     private static void evenWithoutDue() {
@@ -231,14 +229,12 @@ final class EdgeNoonTest {
     }
 
     private static void nearer(SundialTreaty x, int want, int... bends) {
-        String before = Check.all(x);
+        String before = Check.land(x);
         Check.eq("nearer()", x.nearer(), want);
         for (int t = 0; t < bends.length; t++) {
             Check.eq("nearerAt(" + t + ")", x.nearerAt(t), bends[t]);
         }
-        String behind = Check.all(x);
-        Check.yes("nearer() leaves the valley as it is",
-                before.substring(0, before.indexOf("nearer")).equals(behind.substring(0, behind.indexOf("nearer"))));
+        Check.yes("nearer() leaves the valley as it is", Check.land(x).equals(before));
     }
 
     private static void whoComesNearer() {

@@ -225,24 +225,16 @@ final class EdgeTapeTest {
         shadows("the last one of seven", seven, 65, 6, 101);
     }
 
-    private static void motto(SundialTreaty x, int t, String want) {
-        Check.eq("motto(" + t + ")", x.motto(t), want.length());
-        for (int i = 0; i < want.length(); i++) {
-            Check.eq("byteAt(" + i + ") of " + want, x.byteAt(i), want.charAt(i));
-        }
-        Check.eq("byteAt behind " + want, x.byteAt(want.length()), -1);
-    }
-
     private static void motto() {
         SundialTreaty x = Check.valley("town a 1;town bcdefgh 1 slow 30;");
-        motto(x, 0, "a counts right");
-        motto(x, 1, "bcdefgh counts slow 30");
+        MottoTest.motto(x, 0, "a counts right");
+        MottoTest.motto(x, 1, "bcdefgh counts slow 30");
         x.shade(0);
         x.shade(1);
-        motto(x, 0, "a counts right in the shade");
-        motto(x, 1, "bcdefgh counts slow 30 in the shade");
+        MottoTest.motto(x, 0, "a counts right in the shade");
+        MottoTest.motto(x, 1, "bcdefgh counts slow 30 in the shade");
         x.clear(1);
-        motto(x, 1, "bcdefgh counts slow 30");
+        MottoTest.motto(x, 1, "bcdefgh counts slow 30");
         int[] wrong = {-1, 2, 7, LEAST, MOST};
         for (int t : wrong) {
             Check.eqAndStays("motto(" + t + ")", x, () -> x.motto(t), -1);
@@ -252,14 +244,14 @@ final class EdgeTapeTest {
 
     private static void minutes() {
         for (int m = 1; m <= 30; m++) {
-            motto(Check.valley("town ab 0 fast " + m + ";"), 0, "ab counts fast " + m);
-            motto(Check.valley("town ab 0 slow " + m + ";"), 0, "ab counts slow " + m);
+            MottoTest.motto(Check.valley("town ab 0 fast " + m + ";"), 0, "ab counts fast " + m);
+            MottoTest.motto(Check.valley("town ab 0 slow " + m + ";"), 0, "ab counts slow " + m);
         }
         SundialTreaty x = Check.valley("town ab 0 fast 1;");
         x.freeze();
-        motto(x, 0, "ab counts right");
+        MottoTest.motto(x, 0, "ab counts right");
         x.bend(0, -1);
-        motto(x, 0, "ab counts slow 1");
+        MottoTest.motto(x, 0, "ab counts slow 1");
     }
 
     private static void byteAt() {
@@ -268,14 +260,14 @@ final class EdgeTapeTest {
         for (int i : any) {
             Check.eq("byteAt(" + i + ") ahead of any", x.byteAt(i), -1);
         }
-        motto(x, 0, "ab counts fast 10");
+        MottoTest.motto(x, 0, "ab counts fast 10");
         int[] wrong = {-1, 17, 18, 39, 40, 41, LEAST, MOST};
         for (int i : wrong) {
             Check.eq("byteAt(" + i + ")", x.byteAt(i), -1);
         }
         x.motto(2);
         Check.eq("byteAt(16) behind a motto of none", x.byteAt(16), '0');
-        motto(x, 1, "c counts right");
+        MottoTest.motto(x, 1, "c counts right");
         Check.eq("byteAt(16) of a shorter one", x.byteAt(16), -1);
     }
 

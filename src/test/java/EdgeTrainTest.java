@@ -27,23 +27,17 @@ final class EdgeTrainTest {
         Check.finish("EdgeTrainTest");
     }
 
-    private static void train(SundialTreaty x, int k, int... want) {
-        for (int what = 0; what < want.length; what++) {
-            Check.eq("train(" + k + ", " + what + ")", x.train(k, what), want[what]);
-        }
-    }
-
     private static void leaves() {
         SundialTreaty x = Check.valley("town a 0 fast 30;town b 60 slow 30;limit 10;train k a b 0 1;train l b a 600 200;");
-        train(x, 0, 0, 1, 0, 1, -30, -29, -119);
-        train(x, 1, 1, 0, 600, 200, 690, 890, 920);
+        TrainTest.train(x, 0, 0, 1, 0, 1, -30, -29, -119);
+        TrainTest.train(x, 1, 1, 0, 600, 200, 690, 890, 920);
         x.bend(0, -10);
-        train(x, 0, 0, 1, 0, 1, -20, -19, -109);
-        train(x, 1, 1, 0, 600, 200, 690, 890, 910);
+        TrainTest.train(x, 0, 0, 1, 0, 1, -20, -19, -109);
+        TrainTest.train(x, 1, 1, 0, 600, 200, 690, 890, 910);
         x.bend(1, 10);
-        train(x, 1, 1, 0, 600, 200, 680, 880, 900);
+        TrainTest.train(x, 1, 1, 0, 600, 200, 680, 880, 900);
         x.freeze();
-        train(x, 0, 0, 1, 0, 1, -19, -18, -97);
+        TrainTest.train(x, 0, 0, 1, 0, 1, -19, -18, -97);
     }
 
     private static void noTrain() {
@@ -94,18 +88,6 @@ final class EdgeTrainTest {
         }
     }
 
-    private static void route(SundialTreaty x, int a, int b, int m, int want, int... trains) {
-        String call = "route(" + a + ", " + b + ", " + m + ")";
-        Check.eq(call, x.route(a, b, m), want);
-        if (want == -1) {
-            return;
-        }
-        for (int k = 0; k < trains.length; k++) {
-            Check.eq("routeAt(" + k + ") of " + call, x.routeAt(k), trains[k]);
-        }
-        Check.eq("routeAt behind it of " + call, x.routeAt(trains.length), -1);
-    }
-
     private static void eachOnce() {
         // All eight, one behind the other, to and fro.
         StringBuilder text = new StringBuilder("town a 0;town b 0;town c 0;change 0;");
@@ -113,70 +95,70 @@ final class EdgeTrainTest {
             text.append("train k").append((char) ('a' + k)).append(k % 2 == 1 ? " a b " : " b a ").append(10 * k).append(" 10;");
         }
         text.append("train z b c 80 10;");
-        route(Check.valley(text.toString()), 0, 2, 0, 90, 0, 7);
+        TrainTest.route(Check.valley(text.toString()), 0, 2, 0, 90, 0, 7);
         // Only by all of them one comes to the last town in time.
-        route(Check.valley("town a 0;town b 0;town c 0;town d 0;town e 0;town f 0;town g 0;change 0;train p f g 70 1;train q e f 60 1;"
+        TrainTest.route(Check.valley("town a 0;town b 0;town c 0;town d 0;town e 0;town f 0;town g 0;change 0;train p f g 70 1;train q e f 60 1;"
                 + "train r d e 50 1;train s c d 40 1;train t b c 30 1;train u a b 20 1;"), 0, 6, 0, 71, 5, 4, 3, 2, 1, 0);
-        route(Check.valley("town a 0;town b 0;town c 0;town d 0;town e 0;town f 0;town g 0;change 0;train p f g 70 1;train q e f 60 1;"
+        TrainTest.route(Check.valley("town a 0;town b 0;town c 0;town d 0;town e 0;town f 0;town g 0;change 0;train p f g 70 1;train q e f 60 1;"
                 + "train r d e 50 1;train s c d 40 1;train t b c 30 1;train u a b 20 1;train v b a 10 1;train w c b 0 1;"),
                 2, 0, 0, 11, 7, 6);
         // There is one train to b, none from it: it is not taken again.
-        route(Check.valley("town a 0;town b 0;town c 0;train k a b 10 20;"), 0, 2, 0, -1);
+        TrainTest.route(Check.valley("town a 0;town b 0;town c 0;train k a b 10 20;"), 0, 2, 0, -1);
     }
 
     private static void thenAtTheSoonest() {
         SundialTreaty x = Check.valley(THREE);
-        route(x, 0, 1, 9, 30, 0);
-        route(x, 0, 1, 10, 30, 0);
-        route(x, 0, 1, 11, -1);
+        TrainTest.route(x, 0, 1, 9, 30, 0);
+        TrainTest.route(x, 0, 1, 10, 30, 0);
+        TrainTest.route(x, 0, 1, 11, -1);
         // To change, minutes must be left; ahead of the first train, none.
-        route(x, 1, 2, 35, 45, 1);
-        route(x, 1, 2, 36, -1);
-        route(x, 0, 2, 10, 45, 0, 1);
-        route(x, 0, 2, 11, -1);
+        TrainTest.route(x, 1, 2, 35, 45, 1);
+        TrainTest.route(x, 1, 2, 36, -1);
+        TrainTest.route(x, 0, 2, 10, 45, 0, 1);
+        TrainTest.route(x, 0, 2, 11, -1);
         x.bend(0, 3);
-        route(x, 0, 1, 7, 27, 0);
-        route(x, 0, 1, 8, -1);
+        TrainTest.route(x, 0, 1, 7, 27, 0);
+        TrainTest.route(x, 0, 1, 8, -1);
     }
 
     private static void change() {
         for (int change = 0; change <= 30; change++) {
             SundialTreaty x = Check.valley("town a 0;town b 0;town c 0;change " + change + ";train k a b 10 20;train l b c 45 10;");
-            route(x, 0, 2, 0, change <= 15 ? 55 : -1, 0, 1);
+            TrainTest.route(x, 0, 2, 0, change <= 15 ? 55 : -1, 0, 1);
         }
         SundialTreaty y = Check.valley(THREE);
         y.bend(1, 1);
-        route(y, 0, 2, 0, -1);
+        TrainTest.route(y, 0, 2, 0, -1);
         SundialTreaty z = Check.valley(THREE);
         z.bend(1, -1);
-        route(z, 0, 2, 0, 46, 0, 1);
+        TrainTest.route(z, 0, 2, 0, 46, 0, 1);
     }
 
     private static void soonest() {
         // The first to leave is not the first to come; more trains are no matter if one is there sooner.
-        route(Check.valley("town a 0;town b 0;town c 0;change 0;train k a c 0 100;train l a c 50 49;train m a b 60 10;train n b c 80 18;"),
+        TrainTest.route(Check.valley("town a 0;town b 0;town c 0;change 0;train k a c 0 100;train l a c 50 49;train m a b 60 10;train n b c 80 18;"),
                 0, 2, 0, 98, 2, 3);
-        route(Check.valley("town a 0;town b 0;town c 0;change 0;train k a c 0 100;train l a c 50 49;train m a b 60 10;train n b c 80 19;"),
+        TrainTest.route(Check.valley("town a 0;town b 0;town c 0;change 0;train k a c 0 100;train l a c 50 49;train m a b 60 10;train n b c 80 19;"),
                 0, 2, 0, 99, 1);
     }
 
     private static void fewest() {
         String text = "town a 0;town b 0;town c 0;change 0;train k a b 0 10;train l b c 20 30;train m a c 40 10;";
-        route(Check.valley(text), 0, 2, 0, 50, 2);
-        route(Check.valley("town a 0;town b 0;town c 0;town d 0;change 0;train k a b 0 10;train l b c 20 10;train m c d 40 10;"
+        TrainTest.route(Check.valley(text), 0, 2, 0, 50, 2);
+        TrainTest.route(Check.valley("town a 0;town b 0;town c 0;town d 0;change 0;train k a b 0 10;train l b c 20 10;train m c d 40 10;"
                 + "train n a c 5 6;"), 0, 3, 0, 50, 3, 2);
     }
 
     private static void first() {
         String pair = "town a 0;town b 0;change 0;";
-        route(Check.valley(pair + "train k a b 40 10;train l a b 30 20;train m a b 0 50;"), 0, 1, 0, 50, 0);
-        route(Check.valley(pair + "train k a b 40 11;train l a b 30 20;train m a b 0 50;"), 0, 1, 0, 50, 1);
-        route(Check.valley(pair + "train k a b 40 10;train l a b 30 20;train m a b 0 50;"), 0, 1, 40, 50, 0);
+        TrainTest.route(Check.valley(pair + "train k a b 40 10;train l a b 30 20;train m a b 0 50;"), 0, 1, 0, 50, 0);
+        TrainTest.route(Check.valley(pair + "train k a b 40 11;train l a b 30 20;train m a b 0 50;"), 0, 1, 0, 50, 1);
+        TrainTest.route(Check.valley(pair + "train k a b 40 10;train l a b 30 20;train m a b 0 50;"), 0, 1, 40, 50, 0);
         String three = "town a 0;town b 0;town c 0;change 0;";
         // By 1 and 0, 1 and 3, 2 and 0, 2 and 3 one is there at 50.
-        route(Check.valley(three + "train k b c 20 30;train l a b 0 10;train m a b 0 5;train n b c 30 20;"), 0, 2, 0, 50, 1, 0);
+        TrainTest.route(Check.valley(three + "train k b c 20 30;train l a b 0 10;train m a b 0 5;train n b c 30 20;"), 0, 2, 0, 50, 1, 0);
         // By 0 and 3, 1 and 2: the first train is the less, though the second is not.
-        route(Check.valley("town a 0;town b 0;town c 0;town d 0;change 0;train k a b 0 10;train l a c 0 10;train m c d 20 30;"
+        TrainTest.route(Check.valley("town a 0;town b 0;town c 0;town d 0;change 0;train k a b 0 10;train l a c 0 10;train m c d 20 30;"
                 + "train n b d 20 30;"), 0, 3, 0, 50, 0, 3);
     }
 
@@ -185,33 +167,33 @@ final class EdgeTrainTest {
         for (int t = 0; t < 3; t++) {
             x.shade(t);
         }
-        train(x, 0, 0, 1, 10, 20, 10, 30, 30);
+        TrainTest.train(x, 0, 0, 1, 10, 20, 10, 30, 30);
         Check.eq("spare(0, 1)", x.spare(0, 1), 0);
-        route(x, 0, 2, 0, 45, 0, 1);
+        TrainTest.route(x, 0, 2, 0, 45, 0, 1);
         x.bend(0, 1);
-        train(x, 0, 0, 1, 10, 20, 9, 29, 29);
+        TrainTest.train(x, 0, 0, 1, 10, 20, 9, 29, 29);
     }
 
     private static void minutes() {
         SundialTreaty x = Check.valley("town a 60 slow 30;town b 0 fast 30;train k a b 600 200;train l b a 30 1;");
-        route(x, 0, 1, 0, 890, 0);
-        route(x, 0, 1, 690, 890, 0);
+        TrainTest.route(x, 0, 1, 0, 890, 0);
+        TrainTest.route(x, 0, 1, 690, 890, 0);
         Check.eqAndStays("route(0, 1, 691)", x, () -> x.route(0, 1, 691), -1);
         Check.eqAndStays("route(0, 1, 999)", x, () -> x.route(0, 1, 999), -1);
         int[] wrong = {-1, 1000, 1001, LEAST, MOST};
         for (int m : wrong) {
             Check.eqAndStays("route(0, 1, " + m + ")", x, () -> x.route(0, 1, m), -1);
         }
-        route(x, 1, 0, 0, 1, 1);
-        route(x, 1, 0, 1, -1);
+        TrainTest.route(x, 1, 0, 0, 1, 1);
+        TrainTest.route(x, 1, 0, 1, -1);
         // A train that leaves ahead of minute 0 can't be caught.
-        route(Check.valley("town a 0 fast 1;town b 0;train k a b 0 9;"), 0, 1, 0, -1);
-        route(Check.valley("town a 0 fast 1;town b 0;train k a b 1 9;"), 0, 1, 0, 9, 0);
+        TrainTest.route(Check.valley("town a 0 fast 1;town b 0;train k a b 0 9;"), 0, 1, 0, -1);
+        TrainTest.route(Check.valley("town a 0 fast 1;town b 0;train k a b 1 9;"), 0, 1, 0, 9, 0);
     }
 
     private static void noRoute() {
         SundialTreaty x = Check.valley(THREE);
-        route(x, 0, 2, 0, 45, 0, 1);
+        TrainTest.route(x, 0, 2, 0, 45, 0, 1);
         Check.eqAndStays("no train goes there", x, () -> x.route(2, 0, 0), -1);
         for (int t = 0; t < 3; t++) {
             int same = t;
@@ -228,7 +210,7 @@ final class EdgeTrainTest {
 
     private static void routeAt() {
         SundialTreaty x = Check.valley(THREE);
-        route(x, 0, 2, 0, 45, 0, 1);
+        TrainTest.route(x, 0, 2, 0, 45, 0, 1);
         x.route(2, 0, 0);
         x.route(0, 0, 0);
         x.route(0, 2, 11);
@@ -236,7 +218,7 @@ final class EdgeTrainTest {
         x.bend(0, -3);
         Check.eq("routeAt(0) stays", x.routeAt(0), 0);
         Check.eq("routeAt(1) stays", x.routeAt(1), 1);
-        route(x, 1, 2, 0, 45, 1);
+        TrainTest.route(x, 1, 2, 0, 45, 1);
         Check.eq("routeAt(1) of a shorter one", x.routeAt(1), -1);
     }
 
@@ -248,7 +230,7 @@ final class EdgeTrainTest {
         }
         x.route(2, 0, 0);
         Check.eq("routeAt(0) behind one that is NONE", x.routeAt(0), -1);
-        route(x, 0, 2, 0, 45, 0, 1);
+        TrainTest.route(x, 0, 2, 0, 45, 0, 1);
         int[] wrong = {-1, 2, 7, 8, LEAST, MOST};
         for (int k : wrong) {
             Check.eq("routeAt(" + k + ")", x.routeAt(k), -1);

@@ -35,7 +35,7 @@ final class ImageTest {
         x.days(2);
         x.freeze();
         x.bend(1, -2);
-        String was = all(x);
+        String was = Check.land(x);
         Check.yes("image(0)", x.image(0));
         x.days(9);
         x.clear(1);
@@ -43,19 +43,19 @@ final class ImageTest {
         x.valley();
         Check.tape(x, "right");
         x.sentence();
-        String second = all(x);
+        String second = Check.land(x);
         Check.yes("image(1)", x.image(1));
         x.bend(0, 3);
         Check.yes("restore(0)", x.restore(0));
-        Check.yes("all is as it was: " + all(x), all(x).equals(was));
+        Check.yes("all is as it was: " + Check.land(x), Check.land(x).equals(was));
         Check.eq("undo()", x.undo(), -1);
         x.freeze();
         Check.tape(x, "right");
         x.sentence();
         Check.yes("restore(0) again", x.restore(0));
-        Check.yes("the image did not change: " + all(x), all(x).equals(was));
+        Check.yes("the image did not change: " + Check.land(x), Check.land(x).equals(was));
         Check.yes("restore(1)", x.restore(1));
-        Check.yes("the other image: " + all(x), all(x).equals(second));
+        Check.yes("the other image: " + Check.land(x), Check.land(x).equals(second));
         x.days(3);
         Check.yes("image(0) anew", x.image(0));
         x.days(3);
@@ -75,21 +75,21 @@ final class ImageTest {
         x.sentence();
         x.bend(0, 2);
         x.shade(2);
-        String was = all(x);
+        String was = Check.land(x);
         x.image(0);
-        Check.tape(x, "town d 20 slow 12;town e 13;town f 15 fast 1;term e 58 90 slow 17;term d 110 350 fast 18;term f 0 0 fast 1;"
+        Check.tape(x, "town d 20 slow 12;town e 13;town f 15 fast 1;term e 45 90 slow 17;term d 110 350 fast 18;term f 0 0 fast 1;"
                 + "train m e d 19 20;train n f e 21 22;limit 5;change 6;frost 7;");
         x.valley();
         Check.tape(x, "number < 1 or number = 2");
         x.sentence();
         x.days(57);
-        String second = all(x);
+        String second = Check.land(x);
         x.image(1);
         for (int i = 0; i < 3; i++) {
             x.restore(0);
-            Check.yes("the first: " + all(x), all(x).equals(was));
+            Check.yes("the first: " + Check.land(x), Check.land(x).equals(was));
             x.restore(1);
-            Check.yes("the second: " + all(x), all(x).equals(second));
+            Check.yes("the second: " + Check.land(x), Check.land(x).equals(second));
         }
         Check.tape(x, "shade e;");
         Check.eq("names are kept", x.book(0), -1);
@@ -144,35 +144,5 @@ final class ImageTest {
             text.append((char) x.byteAt(i));
         }
         return text.toString();
-    }
-
-    private static String all(SundialTreaty x) {
-        StringBuilder all = new StringBuilder();
-        for (int what = 0; what < 6; what++) {
-            all.append(x.count(what)).append(' ');
-        }
-        for (int what = 0; what < 7; what++) {
-            all.append(x.now(what)).append(' ');
-        }
-        for (int t = 0; t < x.count(0); t++) {
-            for (int what = 0; what < 9; what++) {
-                all.append(x.town(t, what)).append(' ');
-            }
-            int town = t;
-            for (int day = 0; day < 400; day += 57) {
-                int on = day;
-                all.append(Check.orThrown(() -> x.due(town, on), 99)).append(' ');
-            }
-            all.append(motto(x, t)).append(' ');
-        }
-        for (int k = 0; k < x.count(2); k++) {
-            for (int what = 0; what < 7; what++) {
-                all.append(x.train(k, what)).append(' ');
-            }
-        }
-        for (int k = -1; k < 4; k++) {
-            all.append(x.said(k)).append(' ');
-        }
-        return all.toString();
     }
 }

@@ -31,7 +31,7 @@ final class MottoTest {
         Check.finish("MottoTest");
     }
 
-    private static void motto(SundialTreaty x, int t, String want) {
+    static void motto(SundialTreaty x, int t, String want) {
         Check.eq("motto(" + t + ")", x.motto(t), want.length());
         for (int i = 0; i < want.length(); i++) {
             Check.eq("byteAt(" + i + ") of " + want, x.byteAt(i), want.charAt(i));

@@ -37,10 +37,7 @@ final class TownTest {
         Check.none("town(0, -1)", () -> x.town(0, -1));
         Check.none("town(7, 0)", () -> x.town(7, 0));
         Check.none("town(least, 0)", () -> x.town(Integer.MIN_VALUE, 0));
-        for (int i = 0; i < 7; i++) {
-            x.days(60);
-        }
-        Check.eq("the last day", x.now(0), 400);
+        Check.toDay(x, 400);
         Check.eq("no due then", x.town(1, 8), 0);
         Check.eq("no breach then", x.town(1, 3), 0);
     }

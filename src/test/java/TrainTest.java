@@ -33,7 +33,7 @@ final class TrainTest {
         train(y, 0, 0, 1, 0, 1, -30, -29, -119);
     }
 
-    private static void train(SundialTreaty x, int k, int... want) {
+    static void train(SundialTreaty x, int k, int... want) {
         for (int what = 0; what < want.length; what++) {
             Check.eq("train(" + k + ", " + what + ")", x.train(k, what), want[what]);
         }
@@ -71,9 +71,12 @@ final class TrainTest {
         route(x, 0, 2, 0, 114, 0, 1);
     }
 
-    private static void route(SundialTreaty x, int a, int b, int m, int want, int... trains) {
+    static void route(SundialTreaty x, int a, int b, int m, int want, int... trains) {
         String call = "route(" + a + ", " + b + ", " + m + ")";
         Check.eq(call, x.route(a, b, m), want);
+        if (want == -1) {
+            return;
+        }
         for (int k = 0; k < trains.length; k++) {
             Check.eq("routeAt(" + k + ") of " + call, x.routeAt(k), trains[k]);
         }

@@ -24,9 +24,9 @@ final class ValleyTextTest {
         lines(TWO + "train k a b 600 200;train l b a 0 1;", 4);
         lines("town abc 1;town abcd 1;town ab 1;", 3);
         lines("limit 10;change 0;frost 0;", 3);
-        lines(sevenTowns() + "limit 1;", 8);
-        lines(terms(12), 13);
-        lines(trains(8), 10);
+        lines(Texts.towns(7) + "limit 1;", 8);
+        lines("town a 1;" + Texts.terms(12), 13);
+        lines(TWO + Texts.trains(8), 10);
         SundialTreaty x = Check.valley("town a 7 fast 30;town b 8 slow 1;town c 9;term b 5 6 slow 30;term b 0 399 fast 2;");
         Check.eq("bend of a", x.town(0, 1), 30);
         Check.eq("bend of b", x.town(1, 1), -1);
@@ -112,10 +112,10 @@ final class ValleyTextTest {
     }
 
     private static void tooMany() {
-        String seven = sevenTowns();
+        String seven = Texts.towns(7);
         Check.valleyFault(seven + "town a 99;", 4, seven.length());
-        Check.valleyFault(terms(13), 4, terms(12).length());
-        Check.valleyFault(trains(9), 4, trains(8).length());
+        Check.valleyFault("town a 1;" + Texts.terms(13), 4, 9 + 12 * 18);
+        Check.valleyFault(TWO + Texts.trains(9), 4, 18 + 8 * 17);
         Check.valleyFault(seven + "tow h 1;", 1, seven.length());
     }
 
@@ -219,21 +219,5 @@ final class ValleyTextTest {
         Check.eq("valley() of " + Check.brief(text), x.valley(), want);
         Check.eq("fault() of " + Check.brief(text), x.fault(), 0);
         Check.eq("count(6) behind " + Check.brief(text), x.count(6), 0);
-    }
-
-    private static String sevenTowns() {
-        return "town a 1;town b 1;town c 1;town d 1;town e 1;town f 1;town g 1;";
-    }
-
-    private static String terms(int n) {
-        return "town a 1;" + "term a 0 0 fast 1;".repeat(n);
-    }
-
-    private static String trains(int n) {
-        StringBuilder all = new StringBuilder(TWO);
-        for (int i = 0; i < n; i++) {
-            all.append("train k").append((char) ('a' + i)).append(" a b 0 1;");
-        }
-        return all.toString();
     }
 }
