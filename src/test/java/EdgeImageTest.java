@@ -6,6 +6,7 @@ final class EdgeImageTest {
 
     public static void main(String[] args) {
         Check.sentence("VALLEY, all that is so and the SENTENCE are kept in place k (0, 1): true", EdgeImageTest::kept);
+        Check.sentence("VALLEY, all that is so and the SENTENCE", EdgeImageTest::allParts);
         Check.sentence("are kept in place k (0, 1): true; false: no such one.", EdgeImageTest::noPlace);
         Check.sentence("They are as kept in place k", EdgeImageTest::asKept);
         Check.sentence("(the tape, and what other calls told last, stays", EdgeImageTest::toldLastStays);
@@ -23,6 +24,42 @@ final class EdgeImageTest {
         x.freeze();
         x.bend(2, -1);
         return x;
+    }
+
+    /** Unlike in all that is told, but of the same size: so each part of them must be kept. */
+    private static final String[] VALLEYS = {
+        "town a 1 fast 2;town b 3 slow 4;town c 5;term a 0 60 fast 7;term b 100 300 slow 8;train k a b 9 10;train l b c 11 12;"
+            + "limit 2;change 3;frost 4;",
+        "town d 20 slow 12;town e 13;town f 15 fast 1;term e 40 90 slow 17;term d 110 350 fast 18;train m e d 19 20;train n f e 21 22;"
+            + "limit 5;change 6;frost 7;"};
+    private static final String[] SENTENCES = {"number > 0 and fast < 2", "number < 2 and fast = 0"};
+    private static final String[] NAMES = {"abc", "def"};
+
+    private static void allParts() {
+        SundialTreaty x = new SundialTreaty();
+        String[] was = new String[2];
+        for (int k = 0; k < 2; k++) {
+            Texts.VALLEY.read(x, VALLEYS[k]);
+            Texts.SENTENCE.read(x, SENTENCES[k]);
+            x.bend(k, 1);
+            x.shade(2 - k);
+            x.freeze();
+            x.days(50 + k);
+            was[k] = Check.land(x);
+            x.image(k);
+        }
+        Check.yes("they are unlike", !was[0].equals(was[1]));
+        for (int i = 0; i < 6; i++) {
+            int k = i % 2;
+            x.restore(k);
+            Check.yes("all is as kept in place " + k, Check.land(x).equals(was[k]));
+            for (int t = 0; t < 3; t++) {
+                x.motto(t);
+                Check.eq("the name of town " + t, x.byteAt(0), NAMES[k].charAt(t));
+            }
+            Check.eq("the other one's names are not told", Texts.BOOK.read(x, "shade " + NAMES[1 - k].charAt(0) + ";"), -8);
+            Texts.VALLEY.read(x, "town z 1;");
+        }
     }
 
     private static void kept() {

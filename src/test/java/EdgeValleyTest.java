@@ -62,9 +62,13 @@ final class EdgeValleyTest {
         SundialTreaty x = Check.valley("town c 1 fast 9;town d 1;town e 60;");
         Check.eq("the second one's bend", x.town(1, 1), 0);
         Check.eq("the third one's bend", x.town(2, 1), 0);
-        // Nothing is left of a valley that was there ahead of it.
-        Texts.VALLEY.read(x, "town d 1;town e 1;");
-        Check.eq("the first one's bend in a new valley", x.town(0, 1), 0);
+        // Nothing is left of valleys that were there ahead of it.
+        for (int i = 0; i < 3; i++) {
+            Texts.VALLEY.read(x, "town c 1 fast 9;town d 1 slow 8;");
+            Texts.VALLEY.read(x, "town d 1 fast 7;town e 1 slow 6;");
+            Texts.VALLEY.read(x, "town d 1;town e 1;");
+            Check.eq("bends in a new valley", x.town(0, 1) * 100 + x.town(1, 1), 0);
+        }
     }
 
     private static void from() {
@@ -106,10 +110,15 @@ final class EdgeValleyTest {
         String once = word + " " + without + ";";
         Texts.VALLEY.fault(once + once, 3, once.length());
         Texts.VALLEY.fault(once + "town d 1;" + once, 3, once.length() + 9);
-        // It is without again in the next valley.
+        // It is without again in the next valleys, however many told it ahead of them.
         SundialTreaty x = Check.valley(word + " " + most + ";");
-        Texts.VALLEY.read(x, "town d 1;");
-        Check.eq("without " + word + " behind one with it", x.count(what), without);
+        for (int i = 0; i < 3; i++) {
+            Texts.VALLEY.read(x, "town d 1;");
+            Check.eq("without " + word + " behind one with it", x.count(what), without);
+            Texts.VALLEY.read(x, word + " " + most + ";");
+            Texts.VALLEY.read(x, word + " " + most + ";town d 1;");
+            Check.eq("with " + word, x.count(what), most);
+        }
     }
 
     private static void toldWords() {
@@ -133,6 +142,15 @@ final class EdgeValleyTest {
         Texts.VALLEY.fault(Texts.towns(2) + "train b a b 0 1;", 3, 24);
         Texts.VALLEY.fault(Texts.towns(2) + Texts.trains(7) + "train ka a b 0 1;", 3, 18 + 7 * 17 + 6);
         Texts.VALLEY.fault(Texts.towns(2) + Texts.trains(1) + "town ka 1;", 3, 18 + 17 + 5);
+        Texts.VALLEY.fault(Texts.towns(2) + Texts.trains(8) + "town kh 1;", 3, 18 + 8 * 17 + 5);
+        Texts.VALLEY.good(Texts.towns(2) + Texts.trains(8) + "town ki 1;", 11);
+        // Names of valleys that were there ahead of it are free again.
+        SundialTreaty x = Check.valley(Texts.towns(2) + Texts.trains(3));
+        for (int i = 0; i < 3; i++) {
+            Check.eq("trains told as towns", Texts.VALLEY.read(x, "town ka 1;town kb 1;town kc 1;train a ka kb 0 1;"), 4);
+            Check.eq("towns told as trains", Texts.VALLEY.read(x, Texts.towns(2) + Texts.trains(3)), 5);
+            Check.eq("towns told as trains", Texts.VALLEY.read(x, "town c 1;town d 1;train a c d 0 1;train b d c 0 1;"), 4);
+        }
     }
 
     private static void full() {
@@ -145,6 +163,18 @@ final class EdgeValleyTest {
         Texts.VALLEY.fault(all + "town h 1;", 4, all.length());
         Texts.VALLEY.fault(all + "term a 0 0 fast 1;", 4, all.length());
         Texts.VALLEY.fault(all + "train z a b 0 1;", 4, all.length());
+        // Each call knows the last town, too.
+        x.bend(0, -3);
+        Check.eq("even()", x.even(), 3);
+        Check.eq("evenAt(6)", x.evenAt(6), 3);
+        x.bend(6, 3);
+        x.nearer();
+        Check.eq("nearerAt(6)", x.nearerAt(6), 0);
+        Check.eq("votes(6, 3)", x.votes(6, 3), -7);
+        Check.eq("motto(6)", x.motto(6), "g counts fast 3".length());
+        Check.eq("turns(6), right(6, 60)", x.turns(6) + x.right(6, 60), -1);
+        Check.eq("drawn(60, 1)", x.drawn(60, 1), 60);
+        Check.eq("worst(60)", x.worst(60), -1);
         // All of one town's terms hold, the twelfth one too.
         StringBuilder terms = new StringBuilder("town a 1;");
         for (int i = 0; i < 12; i++) {
