@@ -71,6 +71,16 @@ final class EdgeNoonTest {
         Check.eq("of one", x.oneNoon(), 90);
         x.clear(1);
         Check.eq("a shaded one is not counted", x.oneNoon(), -30);
+        SundialTreaty y = Check.valley("town a 10;town b 0;town c 20;town d 1;town e 30;town f 2;");
+        y.shade(1);
+        y.shade(3);
+        y.shade(5);
+        Check.eq("of 10, 20, 30, shaded ones ahead of them", y.oneNoon(), 20);
+        SundialTreaty z = Check.valley("town a 10;town b 60;town c 20;town d 59;town e 30;town f 58;");
+        z.shade(1);
+        z.shade(3);
+        z.shade(5);
+        Check.eq("of 10, 20, 30, shaded ones behind them", z.oneNoon(), 20);
     }
 
     private static void likeNoons() {
@@ -260,6 +270,12 @@ final class EdgeNoonTest {
         // As they are then: b sees that a has come nearer already.
         nearer(Check.valley("town a 10;town b 11;"), 2, -1, 0);
         nearer(Check.valley("town a 11;town b 10;"), 2, 1, 0);
+        // Shaded ones are not counted: a's others are b, c and d, at 20, 30 and 40.
+        SundialTreaty y = Check.valley("town a 50;town b 20;town c 30;town d 40;town e 0;town f 1;term b 0 0 fast 0;"
+                + "term c 0 0 fast 0;term d 0 0 fast 0;");
+        y.shade(4);
+        y.shade(5);
+        nearer(y, 21, 20, 0, 0, 0, 0, 0);
         // Its own noon is not counted: the others' one noon is the least of like ones.
         nearer(Check.valley("town a 30;town b 10;town c 20;term b 0 0 fast 0;term c 0 0 fast 0;"), 21, 20, 0, 0);
     }
