@@ -536,6 +536,9 @@ final class EdgeDialTest {
         Check.eq("undo() of one that was judged", x.undo(), -1);
         Texts.BOOK.read(x, "bend a fast 1;day");
         Check.eq("undo() of one with a fault", x.undo(), -1);
+        // A choice (NOTES.md): it was lived, even if no line of it was.
+        Texts.BOOK.read(x, "clear a;");
+        Check.eq("undo() of one that was wrong at once", x.undo(), 0);
         Texts.BOOK.read(x, "day 3;clear a;day 3;");
         Check.eq("the day, lived as far as it is not wrong", x.now(0), 3);
         Check.eq("undo()", x.undo(), 0);

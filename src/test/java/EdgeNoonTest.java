@@ -188,6 +188,12 @@ final class EdgeNoonTest {
         SundialTreaty y = Check.valley("town a 0 fast 9;term a 0 0 fast 1;");
         Check.eq("an even() that can't be, ahead of any", y.even(), -1);
         Check.none("evenAt(0) then", () -> y.evenAt(0));
+        // A choice (NOTES.md): it knows the towns of that even(), whatever valley there is now.
+        Texts.VALLEY.read(x, "");
+        Check.eq("evenAt(0) in an empty valley", x.evenAt(0), -10);
+        Texts.VALLEY.read(x, Texts.towns(3));
+        Check.eq("evenAt(1) in a larger one", x.evenAt(1), 0);
+        Check.none("evenAt(2) in a larger one", () -> x.evenAt(2));
     }
 
     private static void votesFar() {
@@ -318,6 +324,11 @@ final class EdgeNoonTest {
         Check.eq("nearerAt(0) stays till the next nearer()", x.nearerAt(0), -5);
         x.shade(0);
         nearer(x, 1, 3, 0);
+        // A choice (NOTES.md): it knows the towns of that nearer(), whatever valley there is now.
+        Texts.VALLEY.read(x, "");
+        Check.eq("nearerAt(0) in an empty valley", x.nearerAt(0), 3);
+        Texts.VALLEY.read(x, Texts.towns(3));
+        Check.none("nearerAt(2) in a larger one", () -> x.nearerAt(2));
         SundialTreaty y = new SundialTreaty();
         Check.eq("nearer() without towns", y.nearer(), 1);
         Check.none("nearerAt(0) without towns", () -> y.nearerAt(0));

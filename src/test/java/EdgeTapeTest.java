@@ -196,6 +196,8 @@ final class EdgeTapeTest {
         shadows("a wrong, then right", 2, 0, 84, 0, 85);
         shadows("with another one between", 0, 1, 70, 0, 84, 1, 96, 0, 85);
         shadows("the other way round", 3, 1, 96, 0, 85, 1, 70, 0, 84);
+        // A choice (NOTES.md): one that is overruled must be within 30, too.
+        shadows("one too fast, then right", -1, 0, 111, 0, 85);
     }
 
     private static void others() {
