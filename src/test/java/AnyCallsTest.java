@@ -8,11 +8,6 @@ import java.util.Set;
  * calls give the same answers, and next to nothing is made.
  */
 final class AnyCallsTest {
-    private static final String[] PIECES = {"town ", "term ", "train ", "limit ", "change ", "frost ", "fast ", "slow ", "bend ",
-        "shade ", "clear ", "freeze", "day ", "or ", "and ", "not ", "right ", "shaded ", "breach ", "ahead ", "broken ",
-        "number ", "a ", "b ", "c ", "abcdefg ", "0 ", "1 ", "2 ", "30 ", "399 ", "999 ", ";", ";", ";", "<", "=", ">", "(",
-        ")", "\n", ".", "A", "town a 1;", "town b 2 fast 3;", "town c 60 slow 30;", "train k a b 1 2;", "term a 0 9 fast 1;",
-        "bend a fast 1;", "day 3;", "right or ", "fast > 1 and "};
     private static final Set<Integer> MAY_THROW = Set.of(4, 5, 6, 7, 8, 15, 16, 18, 21, 25, 27);
 
     public static void main(String[] args) {
@@ -69,19 +64,8 @@ final class AnyCallsTest {
     }
 
     private static void text(SundialTreaty x, Random random) {
-        StringBuilder text = new StringBuilder();
-        if (random.nextInt(3) == 0) {
-            text.append("town a 1 fast 3;town b 20;town c 9 slow 2;term a 0 50 fast 2;term b 3 300 slow 4;train k a b 5 6;"
-                    + "train l b c 30 9;train m a c 60 1;");
-        }
-        for (int n = random.nextInt(random.nextInt(4) == 0 ? 200 : 12); n > 0; n--) {
-            text.append(PIECES[random.nextInt(PIECES.length)]);
-        }
-        if (random.nextInt(10) == 0 && text.length() > 0) {
-            text.setCharAt(random.nextInt(text.length()), (char) random.nextInt(256));
-        }
-        text.setLength(Math.min(text.length(), 940));
-        Check.tape(x, text.toString());
+        AnyText texts = new AnyText(random);
+        Check.tape(x, random.nextInt(3) == 0 ? texts.spoilt(texts.valley()) : texts.pieces());
         switch (random.nextInt(4)) {
             case 0:
                 x.book(random.nextInt(2));

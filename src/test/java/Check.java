@@ -1,3 +1,5 @@
+import java.lang.reflect.InvocationTargetException;
+import java.util.Arrays;
 import java.util.NoSuchElementException;
 import java.util.function.IntSupplier;
 import java.util.function.IntUnaryOperator;
@@ -72,6 +74,17 @@ final class Check {
         }
     }
 
+    /** Asked by the call's name; an exception's name stands for the answer of a call that throws. */
+    static Object answer(Object treaty, String name, Object... numbers) throws ReflectiveOperationException {
+        Class<?>[] kinds = new Class<?>[numbers.length];
+        Arrays.fill(kinds, int.class);
+        try {
+            return treaty.getClass().getMethod(name, kinds).invoke(treaty, numbers);
+        } catch (InvocationTargetException e) {
+            return e.getCause().getClass().getSimpleName();
+        }
+    }
+
     /** The tape holds the text alone, a byte for each character. */
     static void tape(SundialTreaty x, String text) {
         x.end(0);
@@ -79,11 +92,11 @@ final class Check {
             x.feed(four(text, at), four(text, at + 4), four(text, at + 8), four(text, at + 12), four(text, at + 16));
         }
         if (!x.end(text.length())) {
-            throw new IllegalStateException("the tape is too short for the test's text");
+            throw new IllegalStateException("the text is longer than a tape");
         }
     }
 
-    private static int four(String text, int at) {
+    static int four(String text, int at) {
         int all = 0;
         for (int i = at; i < at + 4; i++) {
             all = all << 8 | (i < text.length() ? text.charAt(i) & 255 : 0);
