@@ -75,8 +75,18 @@ final class FaceTest {
             Check.yes(c.getName() + " has twenty fields at most", fields <= 20);
             for (Method m : c.getDeclaredMethods()) {
                 Check.yes(m + " takes seven parameters at most", m.getParameterCount() <= 7);
+                Check.no(m + " bears a name of the face", isOfFace(m.getName()));
             }
         }
+    }
+
+    private static boolean isOfFace(String name) {
+        for (String told : FACE) {
+            if (told.contains(" " + name + "(")) {
+                return true;
+            }
+        }
+        return false;
     }
 
     private static void source() throws Exception {
