@@ -393,6 +393,11 @@ final class EdgeTextTest {
         Texts.SENTENCE.fault("(right)or".repeat(10) + "(right)", 4, 90);
         Texts.SENTENCE.fault("right or ".repeat(19) + "not right", 4, 175);
         Texts.SENTENCE.fault("right or ".repeat(19) + "(right)", 4, 172);
+        Texts.SENTENCE.fault("(right)and".repeat(10) + "(right)", 4, 100);
+        // A twentieth 'and' can come; a 21st one behind it would begin where the text must be over.
+        Texts.SENTENCE.fault("right and ".repeat(19) + "right and", 1, 199);
+        Texts.SENTENCE.fault("right and ".repeat(20), 1, 200);
+        Texts.SENTENCE.fault("right and ".repeat(20) + "right", 1, 200);
     }
 
     private static void ninthWithin() {
